@@ -13,14 +13,20 @@ final class Check {
         }
     }
 
-    /** A call must throw just this exception, and change nothing. */
+    /** A call must throw just this exception, by a throw of the class itself, and change nothing. */
     static void refused(String what, Class<? extends RuntimeException> want, Wakeground land, Runnable call) {
         String before = picture(land);
         Class<?> got = null;
+        String thrower = "Wakeground";
         try {
             call.run();
         } catch (RuntimeException e) {
             got = e.getClass();
+            thrower = e.getStackTrace()[0].getClassName();
+        }
+        if (!thrower.equals("Wakeground")) {
+            wrong++;
+            System.out.println(what + ": it was not the class that threw, but " + thrower);
         }
         if (got != want) {
             wrong++;

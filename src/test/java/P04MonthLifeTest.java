@@ -2,6 +2,7 @@
 public final class P04MonthLifeTest {
     public static void main(String[] args) {
         waking();
+        wakingInEachLayer();
         marshGas();
         lakeOfTheMonth();
         plants();
@@ -42,6 +43,18 @@ public final class P04MonthLifeTest {
         // the layer 3 has 200 of its 5000, which is no degree
         Check.due("layer 3", many.layerOf(9, 3, 4), 1000);
         Check.due("frozen layers", many.layerOf(10, 4, 4), 400);
+    }
+
+    private static void wakingInEachLayer() {
+        for (int layer = 0; layer < 5; layer++) {
+            Wakeground land = new Wakeground();
+            land.ground(9, layer, 0, 0, 20000, 1000);
+            land.pass(1, -10, 0);
+            int degrees = land.layerOf(9, layer, 0);
+            Check.due("warm layer " + layer, degrees > 100 ? 1 : 0, 1);
+            Check.due("carbon of layer " + layer, land.layerOf(9, layer, 4), 1000 - degrees);
+            Check.due("SMOKE", land.air(Wakeground.SMOKE), degrees);
+        }
     }
 
     private static Wakeground withPond(int units) {

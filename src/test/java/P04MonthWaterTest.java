@@ -5,6 +5,7 @@ public final class P04MonthWaterTest {
         meltingEdges();
         meltingManyLayers();
         flowing();
+        flowingFromEachCell();
         flowingChain();
         flowingAtMostItsWater();
         flowingToLowestCell();
@@ -83,6 +84,18 @@ public final class P04MonthWaterTest {
         cell(land, "sunk", cell, height - units, 0);
         land.ground(cell, 3, 5, 2, -1000, 400);
         land.ground(cell, 4, 5, 0, -1000, 400);
+    }
+
+    private static void flowingFromEachCell() {
+        for (int cell = 0; cell < 25; cell++) {
+            Wakeground land = new Wakeground();
+            int lower = land.neighbour(cell, 1);
+            sink(land, lower, 4);
+            fill(land, cell, 9);
+            land.pass(1, -10, 0);
+            cell(land, "from " + cell, cell, 91, 7);
+            cell(land, "into " + lower, lower, 96, 2);
+        }
     }
 
     private static void fill(Wakeground land, int cell, int units) {
@@ -196,6 +209,12 @@ public final class P04MonthWaterTest {
         land.pass(1, -50, 0);
         Check.due("the coldest", land.cellOf(7, 4), 1);
         Check.due("two in all", wedges(land), 2);
+        for (int cell = 0; cell < 25; cell++) {
+            Wakeground one = new Wakeground();
+            one.ground(cell, 1, 5, 2, -1300, 400);
+            one.pass(1, -20, 0);
+            Check.due("the coldest one is " + cell, one.cellOf(cell, 4), 1);
+        }
         Wakeground degree = new Wakeground();
         degree.ground(7, 1, 5, 2, -1090, 400);
         degree.pass(1, -20, 0);

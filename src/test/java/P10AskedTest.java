@@ -153,6 +153,12 @@ public final class P10AskedTest {
             Check.due("size at " + cells[i], land.cellOf(cells[i], 6), sizes[i]);
         }
         Check.due("no water", land.cellOf(1, 6), 0);
+        for (int cell = 0; cell < 25; cell++) {
+            Wakeground one = new Wakeground();
+            one.ground(cell, 4, 0, 3, 25000, 0);
+            one.pass(1, -10, 0);
+            Check.due("one lake, at " + cell, one.lakes(), 1);
+        }
         Wakeground all = new Wakeground();
         for (int cell = 0; cell < 25; cell++) {
             all.ground(cell, 4, 0, 3, 25000, 0);
