@@ -3,6 +3,7 @@ public final class P04MonthLifeTest {
     public static void main(String[] args) {
         waking();
         wakingInEachLayer();
+        sleeping();
         marshGas();
         lakeOfTheMonth();
         plants();
@@ -43,6 +44,19 @@ public final class P04MonthLifeTest {
         // the layer 3 has 200 of its 5000, which is no degree
         Check.due("layer 3", many.layerOf(9, 3, 4), 1000);
         Check.due("frozen layers", many.layerOf(10, 4, 4), 400);
+    }
+
+    /** A frozen layer wakes nothing and takes nothing, with the most carbon too. */
+    private static void sleeping() {
+        int[] energy = {-5000, -1000, -300};
+        for (int i = 0; i < energy.length; i++) {
+            Wakeground land = new Wakeground();
+            land.ground(9, 2, 5, 3, energy[i], 1000);
+            land.pass(1, -10, 0);
+            Check.due("frozen", land.layerOf(9, 2, 0) < 0 ? 1 : 0, 1);
+            Check.due("carbon at " + energy[i], land.layerOf(9, 2, 4), 1000);
+            Check.due("SMOKE at " + energy[i], land.air(Wakeground.SMOKE), 0);
+        }
     }
 
     private static void wakingInEachLayer() {
