@@ -1,55 +1,80 @@
+import java.lang.reflect.Member;
 import java.lang.reflect.Modifier;
 
 /** Promise 1, and the face: the class, its constants, and the land as at first. */
 public final class P01NewObjectTest {
     public static void main(String[] args) {
-        Check.due("NONE", Wakeground.NONE, -1);
-        Check.due("SMOKE", Wakeground.SMOKE, 0);
-        Check.due("MARSH", Wakeground.MARSH, 1);
+        constants();
         face();
-        landAsAtFirst();
+        monthAndLakes();
+        cells();
+        layers();
+        amounts();
+        nothingBuilt();
         landsApart();
         Check.end("P01NewObjectTest");
     }
 
+    private static void constants() {
+        Check.due("NONE", Wakeground.NONE, -1);
+        Check.due("SMOKE", Wakeground.SMOKE, 0);
+        Check.due("MARSH", Wakeground.MARSH, 1);
+    }
+
     private static void face() {
         int modifiers = Wakeground.class.getModifiers();
-        Check.due("public final", Modifier.isPublic(modifiers) && Modifier.isFinal(modifiers) ? 1 : 0, 1);
+        Check.so("public and final", Modifier.isPublic(modifiers) && Modifier.isFinal(modifiers));
         Check.due("public methods", publicMembers(Wakeground.class.getDeclaredMethods()), 19);
         Check.due("public fields", publicMembers(Wakeground.class.getDeclaredFields()), 3);
         Check.due("constructors", publicMembers(Wakeground.class.getDeclaredConstructors()), 1);
     }
 
-    private static int publicMembers(java.lang.reflect.Member[] members) {
+    private static int publicMembers(Member[] members) {
         int count = 0;
-        for (java.lang.reflect.Member member : members) {
+        for (Member member : members) {
             if (!Modifier.isPrivate(member.getModifiers()) && !member.isSynthetic()) {
-                Check.due(member.getName() + " is public",
-                        Modifier.isPublic(member.getModifiers()) ? 1 : 0, 1);
+                Check.so(member.getName() + " is public", Modifier.isPublic(member.getModifiers()));
                 count++;
             }
         }
         return count;
     }
 
-    private static void landAsAtFirst() {
+    /** "the month 0" */
+    private static void monthAndLakes() {
         Wakeground land = new Wakeground();
-        int[] excess = {0, 2, 3, 2, 0};
-        int[] cellAtFirst = {100, 0, 0, 2, 0, Wakeground.NONE, 0, 0};
         Check.due("month", land.month(), 0);
         Check.due("lakes", land.lakes(), 0);
+    }
+
+    /** "a height, 100 at first, a pond of water, in units, 0 at first, snow, .. 0 at first, and moss, .. 2 at first" */
+    private static void cells() {
+        Wakeground land = new Wakeground();
+        int[] atFirst = {100, 0, 0, 2, 0, Wakeground.NONE, 0, 0};
         for (int cell = 0; cell < 25; cell++) {
             for (int what = 0; what < 8; what++) {
-                Check.due("cellOf(" + cell + ", " + what + ")", land.cellOf(cell, what), cellAtFirst[what]);
+                Check.due("cellOf(" + cell + ", " + what + ")", land.cellOf(cell, what), atFirst[what]);
             }
+        }
+    }
+
+    /** "5 units of pore ice, the energy -1000, and 400 of carbon; the excess is 0, 2, 3, 2 and 0 from above" */
+    private static void layers() {
+        int[] excess = {0, 2, 3, 2, 0};
+        for (int cell = 0; cell < 25; cell++) {
+            Wakeground land = new Wakeground();
             for (int layer = 0; layer < 5; layer++) {
-                int[] layerAtFirst = {-10, -1000, 5, excess[layer], 400, 0};
+                int[] atFirst = {-10, -1000, 5, excess[layer], 400, 0};
                 for (int what = 0; what < 6; what++) {
                     Check.due("layerOf(" + cell + ", " + layer + ", " + what + ")",
-                            land.layerOf(cell, layer, what), layerAtFirst[what]);
+                            land.layerOf(cell, layer, what), atFirst[what]);
                 }
             }
         }
+    }
+
+    private static void amounts() {
+        Wakeground land = new Wakeground();
         long[] inLand = {-125000, 800, 50000};
         for (int kind = 0; kind < 3; kind++) {
             Check.due("balance(" + kind + ", 0)", land.balance(kind, 0), inLand[kind]);
@@ -59,20 +84,21 @@ public final class P01NewObjectTest {
         }
         Check.due("air(SMOKE)", land.air(Wakeground.SMOKE), 0);
         Check.due("air(MARSH)", land.air(Wakeground.MARSH), 0);
-        Check.noIndex("houseOf(0, 0)", land, () -> land.houseOf(0, 0));
-        Check.noIndex("reading(0, 0, 0)", land, () -> land.reading(0, 0, 0));
-        Check.noIndex("claimOf(0)", land, () -> land.claimOf(0));
+    }
+
+    private static void nothingBuilt() {
+        Check.noIndex("houseOf(0, 0)", Wakeground::new, land -> land.houseOf(0, 0));
+        Check.noIndex("reading(0, 0, 0)", Wakeground::new, land -> land.reading(0, 0, 0));
+        Check.noIndex("claimOf(0)", Wakeground::new, land -> land.claimOf(0));
+        Check.noIndex("claimAnew(0)", Wakeground::new, land -> land.claimAnew(0));
     }
 
     /** What happens in one land does not happen in another one. */
     private static void landsApart() {
-        Wakeground one = new Wakeground();
-        Wakeground other = new Wakeground();
-        one.ground(3, 0, 0, 9, 30000, 1000);
-        one.pass(5, 20, 0);
-        one.house(1, 2, true);
-        one.borehole(1, 3);
-        one.claim(0);
-        Check.alike("another land", other, new Wakeground());
+        Check.alike("a land beside another one", () -> {
+            Wakeground land = new Wakeground();
+            Lands.goneOn(Lands.rich());
+            return land;
+        }, Wakeground::new);
     }
 }

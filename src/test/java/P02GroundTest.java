@@ -2,8 +2,17 @@
 public final class P02GroundTest {
     public static void main(String[] args) {
         told();
-        edges();
-        refused();
+        toldBack();
+        pore();
+        excess();
+        energy();
+        carbon();
+        eachLayer();
+        broughtMore();
+        broughtLess();
+        broughtNothing();
+        ranges();
+        firstException();
         Check.end("P02GroundTest");
     }
 
@@ -19,46 +28,126 @@ public final class P02GroundTest {
         Check.due("the same layer of another cell", land.layerOf(8, 2, 1), -1000);
         Check.due("height", land.cellOf(7, 0), 100);
         Check.due("water", land.cellOf(7, 1), 0);
-        Check.due("heat brought", land.balance(0, 1), -125000 + 750);
-        Check.due("water brought", land.balance(1, 1), 800 - 3);
-        Check.due("carbon brought", land.balance(2, 1), 50000 - 277);
         Check.balanced("told", land);
-        land.ground(7, 2, 5, 3, -1000, 400);
-        Check.alike("told back", land, new Wakeground());
     }
 
-    private static void edges() {
+    private static void toldBack() {
+        Check.alike("told back", () -> {
+            Wakeground land = new Wakeground();
+            land.ground(7, 2, 4, 1, -250, 123);
+            land.ground(7, 2, 5, 3, -1000, 400);
+            return land;
+        }, Wakeground::new);
+    }
+
+    /** "`pore`: 0 to 9" */
+    private static void pore() {
+        for (int pore : new int[] {0, 1, 8, 9}) {
+            Wakeground land = new Wakeground();
+            land.ground(3, 1, pore, 2, -1000, 400);
+            Check.due("pore " + pore, land.layerOf(3, 1, 2), pore);
+            Check.due("water brought", land.balance(1, 1), 800 + pore - 5);
+        }
+        Check.arguments("pore", 0, 9, Lands::rich, (land, pore) -> land.ground(3, 1, pore, 2, -900, 300));
+    }
+
+    /** "`excess`: 0 to 9" */
+    private static void excess() {
+        for (int excess : new int[] {0, 1, 8, 9}) {
+            Wakeground land = new Wakeground();
+            land.ground(3, 1, 5, excess, -1000, 400);
+            Check.due("excess " + excess, land.layerOf(3, 1, 3), excess);
+            Check.due("water brought", land.balance(1, 1), 800 + excess - 2);
+        }
+        Check.arguments("excess", 0, 9, Lands::rich, (land, excess) -> land.ground(3, 1, 4, excess, -900, 300));
+    }
+
+    /** "`energy`: -5000 to 30000" */
+    private static void energy() {
+        for (int energy : new int[] {-5000, -4999, 29999, 30000}) {
+            Wakeground land = new Wakeground();
+            land.ground(3, 1, 5, 2, energy, 400);
+            Check.due("energy " + energy, land.layerOf(3, 1, 1), energy);
+            Check.due("heat brought", land.balance(0, 1), -125000 + energy + 1000);
+        }
+        Check.arguments("energy", -5000, 30000, Lands::rich,
+                (land, energy) -> land.ground(3, 1, 4, 3, energy, 300));
+    }
+
+    /** "`carbon`: 0 to 1000" */
+    private static void carbon() {
+        for (int carbon : new int[] {0, 1, 999, 1000}) {
+            Wakeground land = new Wakeground();
+            land.ground(3, 1, 5, 2, -1000, carbon);
+            Check.due("carbon " + carbon, land.layerOf(3, 1, 4), carbon);
+            Check.due("carbon brought", land.balance(2, 1), 50000 + carbon - 400);
+        }
+        Check.arguments("carbon", 0, 1000, Lands::rich,
+                (land, carbon) -> land.ground(3, 1, 4, 3, -900, carbon));
+    }
+
+    private static void eachLayer() {
         Wakeground land = new Wakeground();
-        land.ground(0, 0, 0, 0, -5000, 0);
-        Check.due("energy -5000", land.layerOf(0, 0, 0), -50);
+        for (int cell = 0; cell < 25; cell++) {
+            for (int layer = 0; layer < 5; layer++) {
+                land.ground(cell, layer, 5, 2, 10 * cell + layer, 400);
+            }
+        }
+        for (int cell = 0; cell < 25; cell++) {
+            for (int layer = 0; layer < 5; layer++) {
+                Check.due("cell " + cell + ", layer " + layer, land.layerOf(cell, layer, 1), 10 * cell + layer);
+            }
+        }
+    }
+
+    private static void brought(String what, Wakeground land, long heat, long water, long carbon) {
+        Check.due(what + ": heat", land.balance(0, 1), -125000 + heat);
+        Check.due(what + ": water", land.balance(1, 1), 800 + water);
+        Check.due(what + ": carbon", land.balance(2, 1), 50000 + carbon);
+        Check.balanced(what, land);
+    }
+
+    /** "what is more by that" */
+    private static void broughtMore() {
+        Wakeground land = new Wakeground();
+        land.ground(24, 4, 5, 1, -999, 401);
+        brought("by 1", land, 1, 1, 1);
         land.ground(24, 4, 9, 9, 30000, 1000);
-        Check.due("energy 30000", land.layerOf(24, 4, 0), 120);
-        Check.due("pore 9", land.layerOf(24, 4, 2), 9);
-        Check.due("excess 9", land.layerOf(24, 4, 3), 9);
-        Check.due("carbon 1000", land.layerOf(24, 4, 4), 1000);
-        Check.due("heat brought", land.balance(0, 1), -125000 - 4000 + 31000);
-        Check.due("water brought", land.balance(1, 1), 800 - 5 + 13);
-        Check.due("carbon brought", land.balance(2, 1), 50000 - 400 + 600);
-        Check.balanced("edges", land);
+        brought("the most", land, 31000, 13, 600);
     }
 
-    private static void refused() {
+    /** "and, below 0, what is less, counts as brought" */
+    private static void broughtLess() {
         Wakeground land = new Wakeground();
-        Check.noIndex("cell -1", land, () -> land.ground(-1, 0, 0, 0, 0, 0));
-        Check.noIndex("cell 25", land, () -> land.ground(25, 0, 0, 0, 0, 0));
-        Check.noIndex("layer -1", land, () -> land.ground(0, -1, 0, 0, 0, 0));
-        Check.noIndex("layer 5", land, () -> land.ground(0, 5, 0, 0, 0, 0));
-        Check.noIndex("the largest cell", land, () -> land.ground(Integer.MAX_VALUE, 0, 0, 0, 0, 0));
-        Check.noIndex("the smallest layer", land, () -> land.ground(0, Integer.MIN_VALUE, 0, 0, 0, 0));
-        Check.noArgument("pore -1", land, () -> land.ground(0, 0, -1, 0, 0, 0));
-        Check.noArgument("pore 10", land, () -> land.ground(0, 0, 10, 0, 0, 0));
-        Check.noArgument("excess -1", land, () -> land.ground(0, 0, 0, -1, 0, 0));
-        Check.noArgument("excess 10", land, () -> land.ground(0, 0, 0, 10, 0, 0));
-        Check.noArgument("energy -5001", land, () -> land.ground(0, 0, 0, 0, -5001, 0));
-        Check.noArgument("energy 30001", land, () -> land.ground(0, 0, 0, 0, 30001, 0));
-        Check.noArgument("carbon -1", land, () -> land.ground(0, 0, 0, 0, 0, -1));
-        Check.noArgument("carbon 1001", land, () -> land.ground(0, 0, 0, 0, 0, 1001));
-        Check.noIndex("cell ahead of pore", land, () -> land.ground(25, 0, 10, 0, 0, 0));
-        Check.noIndex("layer ahead of carbon", land, () -> land.ground(0, 5, 0, 0, 0, 1001));
+        land.ground(0, 0, 4, 0, -1001, 399);
+        brought("by 1", land, -1, -1, -1);
+        land.ground(0, 0, 0, 0, -5000, 0);
+        brought("the least", land, -4000, -5, -400);
+    }
+
+    private static void broughtNothing() {
+        Wakeground land = new Wakeground();
+        land.ground(0, 2, 5, 3, -1000, 400);
+        brought("the same", land, 0, 0, 0);
+        land.ground(0, 2, 3, 5, -1000, 400);
+        brought("as many units", land, 0, 0, 0);
+    }
+
+    /** "`IndexOutOfBoundsException` if there is no such cell or layer" */
+    private static void ranges() {
+        Check.indexes("cell", 0, 24, Lands::rich, (land, cell) -> land.ground(cell, 0, 4, 1, 900, 300));
+        Check.indexes("layer", 0, 4, Lands::rich, (land, layer) -> land.ground(3, layer, 4, 1, 900, 300));
+    }
+
+    /** "the one that is listed first is thrown" */
+    private static void firstException() {
+        Check.noIndex("cell and layer", Lands::rich, land -> land.ground(-1, 5, 0, 0, 0, 0));
+        for (int[] no : new int[][] {{25, 0}, {-1, 4}, {0, 5}, {24, -1}}) {
+            String ahead = "ground(" + no[0] + ", " + no[1] + ", ..) ahead of ";
+            Check.noIndex(ahead + "pore", Lands::rich, land -> land.ground(no[0], no[1], 10, 0, 0, 0));
+            Check.noIndex(ahead + "excess", Lands::rich, land -> land.ground(no[0], no[1], 0, -1, 0, 0));
+            Check.noIndex(ahead + "energy", Lands::rich, land -> land.ground(no[0], no[1], 0, 0, -5001, 0));
+            Check.noIndex(ahead + "carbon", Lands::rich, land -> land.ground(no[0], no[1], 0, 0, 0, 1001));
+        }
     }
 }

@@ -5,7 +5,7 @@ import java.util.List;
 /**
  * The document written down a second time, with no thought of speed or of
  * LANGUAGE.md, for long runs to be compared. It knows no exceptions: it is
- * called only where none is due.
+ * called only where none is due, as RandomRunsTest finds.
  */
 final class PlainLand {
     static final int PORE = 0, EXCESS = 1, ENERGY = 2, CARBON = 3;
@@ -63,6 +63,16 @@ final class PlainLand {
 
     static boolean isBeside(int a, int b) {
         return Math.abs(a / 5 - b / 5) + Math.abs(a % 5 - b % 5) == 1;
+    }
+
+    static int neighbour(int cell, int at) {
+        int left = at;
+        for (int other = 0; other < 25; other++) {
+            if (isBeside(cell, other) && left-- == 0) {
+                return other;
+            }
+        }
+        return -1;
     }
 
     long breach(int cell) {
@@ -273,13 +283,12 @@ final class PlainLand {
     }
 
     long cellOf(int cell, int what) {
-        int house = -1;
-        for (int i = 0; i < houses.size(); i++) {
-            house = houses.get(i)[0] == cell ? i : house;
-        }
+        int house = houseIn(cell);
         int size = 0;
-        for (boolean in : lake(cell)) {
-            size += in ? 1 : 0;
+        if (what == 6) {
+            for (boolean in : lake(cell)) {
+                size += in ? 1 : 0;
+            }
         }
         int thawed = 0;
         for (int layer = 0; layer < 5 && layers[cell][layer][ENERGY] >= 0; layer++) {
@@ -287,6 +296,15 @@ final class PlainLand {
         }
         return new long[] {height[cell], water[cell], snow[cell], moss[cell], wedges[cell], house, size,
                 thawed}[what];
+    }
+
+    int houseIn(int cell) {
+        for (int i = 0; i < houses.size(); i++) {
+            if (houses.get(i)[0] == cell) {
+                return i;
+            }
+        }
+        return -1;
     }
 
     long layerOf(int cell, int layer, int what) {
