@@ -250,7 +250,7 @@ public final class P04Month6CarbonTest {
             land.pass(24, 1, 0);
             Check.due("carbon after " + 24 * year, land.layerOf(8, 0, 4), 1000 + 72 * year);
         }
-        Check.due("SMOKE", land.air(Wakeground.SMOKE) + 72 * 25 < 0 ? 1 : 0, 1);
+        Check.so("SMOKE is below 0 by that, and by what others took", land.air(Wakeground.SMOKE) < -1800);
         Check.balanced("600 months", land);
     }
 

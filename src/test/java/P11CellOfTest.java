@@ -28,7 +28,7 @@ public final class P11CellOfTest {
         Check.due("wedges", land.cellOf(12, 4), 1);
     }
 
-    /** A rich land's cells answer apart. */
+    /** Each cell answers for itself. */
     private static void ofTheCell() {
         Wakeground land = new Wakeground();
         Lands.ponds(land, new int[] {0, 24}, new int[] {2, 5});
