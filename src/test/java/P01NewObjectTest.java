@@ -86,6 +86,7 @@ public final class P01NewObjectTest {
         Check.due("air(MARSH)", land.air(Wakeground.MARSH), 0);
     }
 
+    /** "there is no such cell, layer, house, borehole, month that was read, or claim": of what is numbered, none */
     private static void nothingBuilt() {
         Check.noIndex("houseOf(0, 0)", Wakeground::new, land -> land.houseOf(0, 0));
         Check.noIndex("reading(0, 0, 0)", Wakeground::new, land -> land.reading(0, 0, 0));

@@ -36,6 +36,7 @@ public final class P03MossTest {
         Check.arguments("moss", 0, 3, Lands::rich, (land, moss) -> land.moss(9, moss));
     }
 
+    /** "the one that is listed first is thrown" */
     private static void firstException() {
         Check.noIndex("moss(25, 4)", Lands::rich, land -> land.moss(25, 4));
         Check.noIndex("moss(-1, -1)", Lands::rich, land -> land.moss(-1, -1));

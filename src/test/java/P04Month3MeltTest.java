@@ -75,6 +75,7 @@ public final class P04Month3MeltTest {
         melts(9, 9, 18000, 9, 9000);
     }
 
+    /** "at most all of the layer", where it has no excess, or nothing at all */
     private static void withoutUnits() {
         melts(9, 0, 9000, 0, 9000);
         melts(9, 0, 9099, 0, 9099);

@@ -104,6 +104,7 @@ public final class P05FireTest {
         Check.indexes("cell", 0, 24, Lands::richWithoutSnow, (land, cell) -> land.fire(cell));
     }
 
+    /** "the one that is listed first is thrown" */
     private static void firstException() {
         Check.noIndex("fire(25) in snow", Lands::rich, land -> land.fire(25));
         Check.noIndex("fire(-1) in snow", Lands::rich, land -> land.fire(-1));

@@ -130,6 +130,7 @@ public final class P06BreachTest {
         Check.indexes("cell", 0, 24, P06BreachTest::allWater, (land, cell) -> land.breach(cell));
     }
 
+    /** "the one that is listed first is thrown" */
     private static void firstException() {
         Check.noIndex("breach(25) without water", Wakeground::new, land -> land.breach(25));
         Check.noIndex("breach(-1) without water", Lands::rich, land -> land.breach(-1));

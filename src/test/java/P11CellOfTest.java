@@ -112,6 +112,7 @@ public final class P11CellOfTest {
         Check.arguments("what of a cell without water", 0, 7, Lands::rich, (land, what) -> land.cellOf(24, what));
     }
 
+    /** "the one that is listed first is thrown" */
     private static void firstException() {
         Check.noIndex("cellOf(25, 8)", Lands::rich, land -> land.cellOf(25, 8));
         Check.noIndex("cellOf(-1, -1)", Lands::rich, land -> land.cellOf(-1, -1));

@@ -90,6 +90,7 @@ public final class P12LayerOfTest {
         Check.arguments("what", 0, 5, Lands::rich, (land, what) -> land.layerOf(12, 4, what));
     }
 
+    /** "the one that is listed first is thrown" */
     private static void firstException() {
         Check.noIndex("layerOf(25, 0, 6)", Lands::rich, land -> land.layerOf(25, 0, 6));
         Check.noIndex("layerOf(-1, 0, -1)", Lands::rich, land -> land.layerOf(-1, 0, -1));

@@ -10,6 +10,7 @@ public final class P14LakesTest {
         Check.end("P14LakesTest");
     }
 
+    /** "how many lakes there are": none */
     private static void none() {
         Check.due("no water", new Wakeground().lakes(), 0);
     }

@@ -60,6 +60,7 @@ public final class P15HouseOfTest {
         Check.arguments("what", 0, 4, Lands::rich, (land, what) -> land.houseOf(1, what));
     }
 
+    /** "the one that is listed first is thrown" */
     private static void firstException() {
         Check.noIndex("houseOf(2, 5)", Lands::rich, land -> land.houseOf(2, 5));
         Check.noIndex("houseOf(-1, -1)", Lands::rich, land -> land.houseOf(-1, -1));

@@ -50,6 +50,7 @@ public final class P16ReadingTest {
         Check.indexes("month of a rich land", 0, 6, Lands::rich, (land, month) -> land.reading(1, month, 3));
     }
 
+    /** "a month that has passed since it was sunk": none yet */
     private static void nothingRead() {
         for (int month = 2; month <= 4; month++) {
             int asked = month;
@@ -65,6 +66,7 @@ public final class P16ReadingTest {
         return land;
     }
 
+    /** "at most 600": the last month that is read is 599 */
     private static void lastMonth() {
         Wakeground land = oldWithTwo();
         Check.due("the first month", land.reading(0, 0, 3), -9);
